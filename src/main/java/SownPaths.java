@@ -727,6 +727,10 @@ public final class SownPaths {
             return (rows < 0 ? -rows : rows) + (columns < 0 ? -columns : columns);
         }
 
+        static int turned(int heading, int by) {
+            return (heading + by) % HEADINGS;
+        }
+
         /** The neighbour of a cell in a heading, or -1. */
         static int neighbour(int cell, int heading) {
             int row = cell / SIDE;
@@ -849,7 +853,7 @@ public final class SownPaths {
         private int facing;
         private int age;
 
-        void copyFrom(Seed other) {
+        void mirror(Seed other) {
             kind = other.kind;
             place = other.place;
             facing = other.facing;
@@ -953,7 +957,7 @@ public final class SownPaths {
                 Seed mine = sownAt(i);
                 Seed theirs = other.sownAt(i);
                 if (mine != null && theirs != null) {
-                    mine.copyFrom(theirs);
+                    mine.mirror(theirs);
                 }
             }
             seeds = other.seeds;
@@ -1117,7 +1121,7 @@ public final class SownPaths {
             if (next >= 0 && isGrass(next)) {
                 s.place = next;
             } else {
-                s.facing = s.facing + 1 & 3;
+                s.facing = Cells.turned(s.facing, 1);
             }
             if (pathOf(s.place) < s.treads()) {
                 becomePath(s.place, s.treads());
@@ -1127,11 +1131,11 @@ public final class SownPaths {
 
         int turnOf(Seed s) {
             switch (s.kind) {
-                case CREEPER: return s.facing + (s.age & 1) & 3;
+                case CREEPER: return Cells.turned(s.facing, s.age & 1);
                 case BULB: return toward(s, nearestWater(s));
                 case RUNNER: return toward(s, nearestCompany(s));
-                case STRAGGLER: return toward(s, nearestCompany(s)) + (season & 1) & 3;
-                case TWINER: return s.facing + 1 & 3;
+                case STRAGGLER: return Cells.turned(toward(s, nearestCompany(s)), season & 1);
+                case TWINER: return Cells.turned(s.facing, 1);
                 default: return s.facing;
             }
         }
@@ -1379,7 +1383,7 @@ public final class SownPaths {
                 age = tape.value;
                 tape.next();
             }
-            park.plant(kind, cell, Math.max(UP, heading), age);
+            park.plant(kind, cell, heading < 0 ? UP : heading, age);
             return true;
         }
 
