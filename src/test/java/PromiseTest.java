@@ -346,6 +346,16 @@ public final class PromiseTest {
         due("along a column? 5 is less", turn(v, 0), 1);
         v.ground(24, 1);
         due("24 is nearer", turn(v, 0), 2);
+        SownPaths u = new SownPaths();
+        u.ground(0, 1);
+        u.sow(2, 6, 2);
+        due("toward water on cell 0", turn(u, 0), 0);
+        u.change(0, 1, 1);
+        due("toward water on cell 0", turn(u, 0), 3);
+        SownPaths w = new SownPaths();
+        w.sow(3, 6, 2);
+        w.sow(0, 0, 2);
+        due("toward company on cell 0", turn(w, 0), 0);
     }
 
     private static void change() {
@@ -467,6 +477,15 @@ public final class PromiseTest {
         s.go(4);
         due("a twiner goes round", s.of(0, 1), 14);
         due("where it was", s.where(0), set(14, 15, 20, 21));
+        for (int row = 0; row < 6; row++) {
+            for (int column = 0; column < 6; column++) {
+                int cell = 6 * row + column;
+                steps(cell, 0, row > 0 ? cell - 6 : cell);
+                steps(cell, 1, column < 5 ? cell + 1 : cell);
+                steps(cell, 2, row < 5 ? cell + 6 : cell);
+                steps(cell, 3, column > 0 ? cell - 1 : cell);
+            }
+        }
         SownPaths a = paths(3, 4);
         a.tread(4, 1);
         due("path of 1 is gone", a.go(1), 1);
@@ -475,6 +494,34 @@ public final class PromiseTest {
             old.go(40);
         }
         due("no STATE before 99999", old.now(0), 20000);
+        // No run of 512 calls comes as far: a longer one shows what go() would say.
+        for (int i = 500; i < 2499; i++) {
+            old.go(40);
+        }
+        due("season", old.now(0), 99960);
+        due("STATE", old.go(40), STATE);
+        due("BEYOND is asked first", old.go(41), BEYOND);
+        old.image();
+        old.go(19);
+        due("dogs: up to 99999", old.dogs(20), 0);
+        due("season", old.now(0), 99999);
+        due("undo", old.undo(), 99960);
+        due("up to 99999", old.go(39), 0);
+        due("STATE", old.go(1), STATE);
+        due("dogs: STATE", old.dogs(1), STATE);
+        due("dogs: BEYOND is asked first", old.dogs(21), BEYOND);
+        due("season", old.now(0), 99999);
+        due("what will be can be told all the same", old.ahead(0, 60), 0);
+    }
+
+    /** A seed's one step from a cell by a heading on grass alone. */
+    private static void steps(int cell, int heading, int want) {
+        SownPaths x = new SownPaths();
+        x.sow(0, cell, heading);
+        due("cell " + cell + ", heading " + heading, x.go(1), 1);
+        due("cell " + cell + ", heading " + heading, x.of(0, 1), want);
+        due("cell " + cell + ", heading " + heading, x.of(0, 2), want == cell ? (heading + 1) % 4 : heading);
+        due("cell " + cell + ", heading " + heading, x.where(0), set(want));
     }
 
     private static void now() {
@@ -579,6 +626,9 @@ public final class PromiseTest {
         due("neighbours", x.bridges(0, 1), 0);
         due("itself", x.parts(0, 0), NONE);
         due("itself", x.bridges(0, 0), 0);
+        due("the first cell", paths(1, 0, 6).parts(1, 6), 0);
+        due("the first cell", paths(1, 0, 6).bridges(1, 6), 1);
+        due("the last cell", paths(34, 35, 29).parts(34, 29), 35);
         due("not joined", x.parts(0, 35), NONE);
         due("not joined", x.bridges(0, 35), 0);
         due("nothing changed", x.count(3), 9);
@@ -755,6 +805,8 @@ public final class PromiseTest {
         due("a twiner: right, then down", x.sowFor(5, 20, 14, 2), 13);
         due("a bulb's path lasts to the last season that is allowed", x.sowFor(2, 20, 14, 30), 26);
         due("an annual's does not", x.sowFor(1, 20, 14, 30), NONE);
+        due("an annual treads four times", x.sowFor(1, 20, 2, 4), 26);
+        due("and not five times", x.sowFor(1, 26, 2, 5), NONE);
         due("n 31", x.sowFor(0, 0, 0, 31), BEYOND);
         due("n -1", x.sowFor(0, 0, 0, -1), BEYOND);
         due("kind 7", x.sowFor(7, 0, 0, 0), BEYOND);
@@ -786,6 +838,12 @@ public final class PromiseTest {
         due("without(60)", x.without(60), 0);
         due("without(-1)", x.without(-1), BEYOND);
         due("nothing changed", x.of(0, 3) + x.of(1, 3) + x.of(2, 3), 0);
+        SownPaths all = new SownPaths();
+        for (int c = 0; c < 36; c++) {
+            all.tread(c, 99);
+        }
+        all.sow(0, 0, 0);
+        due("all cells have path all the same", all.without(3), 0);
     }
 
     private static void weed() {
@@ -796,6 +854,8 @@ public final class PromiseTest {
         due("nothing changed", x.cell(20, 1), 1);
         SownPaths y = paths(0, 1, 2, 3, 4, 9);
         due("three groups without 3", y.weed(), 3);
+        due("the first cell", paths(1, 0, 6, 35).weed(), 0);
+        due("the last cell", paths(34, 35, 29, 0).weed(), 35);
         SownPaths z = paths(7, 8, 13, 14);
         due("a square: the least", z.weed(), 7);
         SownPaths v = paths(0, 2);
@@ -1000,6 +1060,8 @@ public final class PromiseTest {
             }
         }
         due("the tape is empty", x.count(5), 0);
+        due("the last cell", read(x, "path 35 4"), 1);
+        due("path of 35", x.cell(35, 1), 4);
         due("grounds", read(x, "water 35;wall 34;path 0 99;path 1 0;path 2 5;water 2;grass 2"), 7);
         due("water", x.where(1), set(35));
         due("wall", x.where(2), set(34));
@@ -1043,6 +1105,8 @@ public final class PromiseTest {
         fault("tree 1", 0);
         fault("  tree 1", 2);
         fault("seeds 1", 0);
+        fault("seedz 1", 0);
+        fault("xeed 1", 0);
         fault("see 1", 0);
         fault("Seed 1", 0);
         fault("7", 0);
@@ -1084,6 +1148,10 @@ public final class PromiseTest {
         fault("wall 1 1", 7);
         fault("grass 1 up", 8);
         fault("water 2;seed 3;path 3 100", 22);
+        fault("path", 4);
+        fault("path ;", 5);
+        fault("water", 5);
+        fault("wall ;", 5);
         fault("path 36 1", 5);
         fault("path 1", 6);
         fault("path 1 ;", 7);
