@@ -881,6 +881,7 @@ public final class SownPaths {
             }
         }
 
+        // Both tables are written as sums, since the document builds a kind on the one above it.
         int lives() {
             switch (kind) {
                 case ANNUAL: return 4;
