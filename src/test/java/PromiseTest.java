@@ -3,13 +3,13 @@
  * wrong inputs. What is due was worked out by hand.
  */
 public final class PromiseTest {
-    private static final int BEYOND = -1000001;
-    private static final int FULL = -1000002;
-    private static final int KIND = -1000003;
-    private static final int NONE = -1000004;
-    private static final int STATE = -1000005;
-    private static final int MISSING = -1000006;
-    private static final int SIZE = -1000007;
+    private static final int BEYOND = Parks.BEYOND;
+    private static final int FULL = Parks.FULL;
+    private static final int KIND = Parks.KIND;
+    private static final int NONE = Parks.NONE;
+    private static final int STATE = Parks.STATE;
+    private static final int MISSING = Parks.MISSING;
+    private static final int SIZE = Parks.SIZE;
     private static final int MIN = Integer.MIN_VALUE;
     private static final int MAX = Integer.MAX_VALUE;
     private static final int[] NO_CELLS = {-1, 36, MIN, MAX};
@@ -68,41 +68,6 @@ public final class PromiseTest {
 
     private static void due(String call, long got, long want) {
         CHECK.due(call, got, want);
-    }
-
-    private static long set(int... cells) {
-        long set = 0;
-        for (int c : cells) {
-            set |= 1L << c;
-        }
-        return set;
-    }
-
-    /** A park with path of 50 on these cells. */
-    private static SownPaths paths(int... cells) {
-        SownPaths x = new SownPaths();
-        for (int c : cells) {
-            x.tread(c, 50);
-        }
-        return x;
-    }
-
-    private static void feed(SownPaths x, String text) {
-        for (int i = 0; i < text.length(); i++) {
-            x.feed(text.charAt(i), 1);
-        }
-    }
-
-    private static int read(SownPaths x, String text) {
-        feed(x, text);
-        return x.text();
-    }
-
-    private static void row(SownPaths x, int s, int bits, int... numbers) {
-        x.sheet(s, bits, numbers.length);
-        for (int i = 0; i < numbers.length; i++) {
-            x.write(s, i, numbers[i]);
-        }
     }
 
     /** A number of a sheet of 8 bits: no call tells it, but it can be held against the path of cell 0. */
@@ -169,11 +134,11 @@ public final class PromiseTest {
         }
         due("ground(0,-1)", x.ground(0, -1), BEYOND);
         due("ground(0,3)", x.ground(0, 3), BEYOND);
-        due("nothing changed", x.where(1) | x.where(2), set(7, 35));
+        due("nothing changed", x.where(1) | x.where(2), Parks.set(7, 35));
     }
 
     private static void cell() {
-        SownPaths x = paths(1, 6, 8, 13, 35);
+        SownPaths x = Parks.paths(1, 6, 8, 13, 35);
         due("cell(7,2)", x.cell(7, 2), 4);
         due("cell(7,1)", x.cell(7, 1), 0);
         due("cell(1,1)", x.cell(1, 1), 50);
@@ -195,7 +160,7 @@ public final class PromiseTest {
         }
         due("cell(0,-1)", x.cell(0, -1), BEYOND);
         due("cell(0,4)", x.cell(0, 4), BEYOND);
-        SownPaths y = paths(6);
+        SownPaths y = Parks.paths(6);
         due("a row's begin is no neighbour of the end before", y.cell(5, 2), 0);
     }
 
@@ -205,7 +170,7 @@ public final class PromiseTest {
         due("tread(0,1)", x.tread(0, 1), 99);
         due("tread(0,0)", x.tread(0, 0), 1);
         due("tread(35,5)", x.tread(35, 5), 0);
-        due("where(0)", x.where(0), set(35));
+        due("where(0)", x.where(0), Parks.set(35));
         due("tread(0,100)", x.tread(0, 100), BEYOND);
         due("tread(0,-1)", x.tread(0, -1), BEYOND);
         for (int c : NO_CELLS) {
@@ -216,7 +181,7 @@ public final class PromiseTest {
         due("tread on water", x.tread(1, 3), STATE);
         due("tread on a wall, 0", x.tread(2, 0), STATE);
         due("BEYOND is asked first", x.tread(1, 100), BEYOND);
-        due("where(0)", x.where(0), set(35));
+        due("where(0)", x.where(0), Parks.set(35));
     }
 
     private static void sow() {
@@ -447,7 +412,7 @@ public final class PromiseTest {
         due("no path on water", z.where(0), 0);
         due("heading by 4", z.of(0, 2), 0);
         z.go(1);
-        due("it leaves the water", z.where(0), set(8));
+        due("it leaves the water", z.where(0), Parks.set(8));
 
         SownPaths v = new SownPaths();
         v.sow(3, 0, 0);
@@ -476,7 +441,7 @@ public final class PromiseTest {
         s.sow(5, 14, 0);
         s.go(4);
         due("a twiner goes round", s.of(0, 1), 14);
-        due("where it was", s.where(0), set(14, 15, 20, 21));
+        due("where it was", s.where(0), Parks.set(14, 15, 20, 21));
         for (int row = 0; row < 6; row++) {
             for (int column = 0; column < 6; column++) {
                 int cell = 6 * row + column;
@@ -486,7 +451,7 @@ public final class PromiseTest {
                 steps(cell, 3, column > 0 ? cell - 1 : cell);
             }
         }
-        SownPaths a = paths(3, 4);
+        SownPaths a = Parks.paths(3, 4);
         a.tread(4, 1);
         due("path of 1 is gone", a.go(1), 1);
         SownPaths old = new SownPaths();
@@ -521,11 +486,11 @@ public final class PromiseTest {
         due("cell " + cell + ", heading " + heading, x.go(1), 1);
         due("cell " + cell + ", heading " + heading, x.of(0, 1), want);
         due("cell " + cell + ", heading " + heading, x.of(0, 2), want == cell ? (heading + 1) % 4 : heading);
-        due("cell " + cell + ", heading " + heading, x.where(0), set(want));
+        due("cell " + cell + ", heading " + heading, x.where(0), Parks.set(want));
     }
 
     private static void now() {
-        SownPaths x = paths(1, 6, 7, 8, 13, 30);
+        SownPaths x = Parks.paths(1, 6, 7, 8, 13, 30);
         x.tread(30, 99);
         x.sow(1, 3, 3);
         x.sow(0, 4, 3);
@@ -544,20 +509,20 @@ public final class PromiseTest {
     }
 
     private static void where() {
-        SownPaths x = paths(0, 1, 2, 7, 35);
+        SownPaths x = Parks.paths(0, 1, 2, 7, 35);
         x.ground(34, 1);
         x.ground(3, 1);
         x.ground(33, 2);
-        due("where(0)", x.where(0), set(0, 1, 2, 7, 35));
-        due("where(1)", x.where(1), set(3, 34));
-        due("where(2)", x.where(2), set(33));
-        due("where(3)", x.where(3), set(1));
+        due("where(0)", x.where(0), Parks.set(0, 1, 2, 7, 35));
+        due("where(1)", x.where(1), Parks.set(3, 34));
+        due("where(2)", x.where(2), Parks.set(33));
+        due("where(3)", x.where(3), Parks.set(1));
         x.tread(0, 0);
         due("two neighbours are no bench", x.where(3), 0);
         x.tread(13, 1);
         x.tread(8, 1);
         x.tread(6, 1);
-        due("four are", x.where(3), set(7));
+        due("four are", x.where(3), Parks.set(7));
         x.tread(7, 0);
         due("a cell without path is none", x.where(3), 0);
         due("where(-1)", x.where(-1), BEYOND);
@@ -565,7 +530,7 @@ public final class PromiseTest {
     }
 
     private static void way() {
-        SownPaths x = paths(0, 1, 2, 8, 14, 13, 12, 5, 6);
+        SownPaths x = Parks.paths(0, 1, 2, 8, 14, 13, 12, 5, 6);
         due("way(0,12)", x.way(0, 12), 2);
         due("way(2,12)", x.way(2, 12), 4);
         due("way(12,2)", x.way(12, 2), 4);
@@ -589,10 +554,10 @@ public final class PromiseTest {
     }
 
     private static void joined() {
-        SownPaths x = paths(0, 1, 7, 35, 29, 5, 6);
-        due("joined(0)", x.joined(0), set(0, 1, 7, 6));
-        due("joined(35)", x.joined(35), set(29, 35));
-        due("joined(5)", x.joined(5), set(5));
+        SownPaths x = Parks.paths(0, 1, 7, 35, 29, 5, 6);
+        due("joined(0)", x.joined(0), Parks.set(0, 1, 7, 6));
+        due("joined(35)", x.joined(35), Parks.set(29, 35));
+        due("joined(5)", x.joined(5), Parks.set(5));
         due("joined(2)", x.joined(2), 0);
         for (int c : NO_CELLS) {
             due("joined(" + c + ")", x.joined(c), BEYOND);
@@ -601,9 +566,9 @@ public final class PromiseTest {
 
     private static void groups() {
         due("none", new SownPaths().groups(), 0);
-        due("one", paths(0).groups(), 1);
-        due("three", paths(0, 1, 7, 35, 29, 5).groups(), 3);
-        due("corners are no neighbours", paths(0, 7, 14, 21, 28, 35).groups(), 6);
+        due("one", Parks.paths(0).groups(), 1);
+        due("three", Parks.paths(0, 1, 7, 35, 29, 5).groups(), 3);
+        due("corners are no neighbours", Parks.paths(0, 7, 14, 21, 28, 35).groups(), 6);
         SownPaths board = new SownPaths();
         for (int c = 0; c < 36; c++) {
             if ((c / 6 + c % 6) % 2 == 0) {
@@ -614,7 +579,7 @@ public final class PromiseTest {
     }
 
     private static void partsAndBridges() {
-        SownPaths x = paths(0, 1, 2, 3, 8, 9, 15, 21, 35);
+        SownPaths x = Parks.paths(0, 1, 2, 3, 8, 9, 15, 21, 35);
         due("parts(0,21)", x.parts(0, 21), 1);
         due("bridges(0,21)", x.bridges(0, 21), 4);
         due("parts(2,21)", x.parts(2, 21), 9);
@@ -626,9 +591,9 @@ public final class PromiseTest {
         due("neighbours", x.bridges(0, 1), 0);
         due("itself", x.parts(0, 0), NONE);
         due("itself", x.bridges(0, 0), 0);
-        due("the first cell", paths(1, 0, 6).parts(1, 6), 0);
-        due("the first cell", paths(1, 0, 6).bridges(1, 6), 1);
-        due("the last cell", paths(34, 35, 29).parts(34, 29), 35);
+        due("the first cell", Parks.paths(1, 0, 6).parts(1, 6), 0);
+        due("the first cell", Parks.paths(1, 0, 6).bridges(1, 6), 1);
+        due("the last cell", Parks.paths(34, 35, 29).parts(34, 29), 35);
         due("not joined", x.parts(0, 35), NONE);
         due("not joined", x.bridges(0, 35), 0);
         due("nothing changed", x.count(3), 9);
@@ -661,7 +626,7 @@ public final class PromiseTest {
         due("a wall", x.mend(1, 2), NONE);
         due("water", x.mend(2, 7), NONE);
         due("water and itself", x.mend(7, 7), NONE);
-        SownPaths y = paths(12, 18, 24, 25, 26, 27, 28, 22, 16);
+        SownPaths y = Parks.paths(12, 18, 24, 25, 26, 27, 28, 22, 16);
         y.ground(14, 2);
         due("a long path is cheaper than a short cut", y.mend(12, 16), 0);
         due("from beyond its ends", y.mend(6, 10), 2);
@@ -681,7 +646,7 @@ public final class PromiseTest {
         due("ahead(8,5)", x.ahead(8, 5), 8);
         due("ahead(0,60)", x.ahead(0, 60), 39);
         due("nothing changed", x.now(0), 0);
-        due("nothing changed", x.where(0), set(0));
+        due("nothing changed", x.where(0), Parks.set(0));
         due("ahead(0,61)", x.ahead(0, 61), BEYOND);
         due("ahead(0,-1)", x.ahead(0, -1), BEYOND);
         for (int c : NO_CELLS) {
@@ -744,14 +709,14 @@ public final class PromiseTest {
         SownPaths x = new SownPaths();
         x.sow(1, 12, 1);
         x.tread(35, 60);
-        due("there(0)", x.there(0), set(35));
-        due("there(2)", x.there(2), set(13, 14, 35));
-        due("there(7)", x.there(7), set(14, 15, 16, 35));
-        due("there(59)", x.there(59), set(35));
+        due("there(0)", x.there(0), Parks.set(35));
+        due("there(2)", x.there(2), Parks.set(13, 14, 35));
+        due("there(7)", x.there(7), Parks.set(14, 15, 16, 35));
+        due("there(59)", x.there(59), Parks.set(35));
         due("there(60)", x.there(60), 0);
         due("there(61)", x.there(61), BEYOND);
         due("there(-1)", x.there(-1), BEYOND);
-        due("nothing changed", x.where(0), set(35));
+        due("nothing changed", x.where(0), Parks.set(35));
     }
 
     private static void kindFor() {
@@ -852,13 +817,13 @@ public final class PromiseTest {
         x.tread(20, 1);
         due("the only one", x.weed(), 20);
         due("nothing changed", x.cell(20, 1), 1);
-        SownPaths y = paths(0, 1, 2, 3, 4, 9);
+        SownPaths y = Parks.paths(0, 1, 2, 3, 4, 9);
         due("three groups without 3", y.weed(), 3);
-        due("the first cell", paths(1, 0, 6, 35).weed(), 0);
-        due("the last cell", paths(34, 35, 29, 0).weed(), 35);
-        SownPaths z = paths(7, 8, 13, 14);
+        due("the first cell", Parks.paths(1, 0, 6, 35).weed(), 0);
+        due("the last cell", Parks.paths(34, 35, 29, 0).weed(), 35);
+        SownPaths z = Parks.paths(7, 8, 13, 14);
         due("a square: the least", z.weed(), 7);
-        SownPaths v = paths(0, 2);
+        SownPaths v = Parks.paths(0, 2);
         due("two alone: the least", v.weed(), 0);
     }
 
@@ -867,7 +832,7 @@ public final class PromiseTest {
         due("no such sheet", x.fits(-1, 0, 0), BEYOND);
         due("no such sheet", x.fits(4, 0, 0), BEYOND);
         due("missing, before no such seed", x.fits(0, 0, 36), MISSING);
-        row(x, 0, 8);
+        Parks.row(x, 0, 8);
         due("no such seed", x.fits(0, 0, 0), BEYOND);
         x.sow(0, 12, 1);
         due("no such seed", x.fits(0, 1, 0), BEYOND);
@@ -876,25 +841,25 @@ public final class PromiseTest {
             due("fits(0,0," + c + ")", x.fits(0, 0, c), BEYOND);
         }
         due("no numbers: all fit", x.fits(0, 0, 13), 127);
-        row(x, 0, 8, 0, 12);
+        Parks.row(x, 0, 8, 0, 12);
         due("only a seed has a tread of 12", x.fits(0, 0, 13), 1);
-        row(x, 0, 8, 0, 6);
+        Parks.row(x, 0, 8, 0, 6);
         due("annual, creeper", x.fits(0, 0, 13), 2 + 64);
-        row(x, 0, 8, 0, 32);
+        Parks.row(x, 0, 8, 0, 32);
         due("bulb, runner", x.fits(0, 0, 13), 4 + 8);
-        row(x, 0, 8, -1, 16);
+        Parks.row(x, 0, 8, -1, 16);
         due("straggler", x.fits(0, 0, 13), 16);
-        row(x, 0, 16, -1, -1, 5);
+        Parks.row(x, 0, 16, -1, -1, 5);
         due("annual, creeper, one season on", x.fits(0, 0, 13), 2 + 64);
-        row(x, 0, 32, 0, 0);
+        Parks.row(x, 0, 32, 0, 0);
         due("a twiner goes down", x.fits(0, 0, 13), 32);
-        row(x, 0, 8, 1, 12);
+        Parks.row(x, 0, 8, 1, 12);
         due("now it isn't so", x.fits(0, 0, 13), 0);
-        row(x, 0, 8, -1, -2);
+        Parks.row(x, 0, 8, -1, -2);
         due("-2 is not any", x.fits(0, 0, 13), 0);
-        row(x, 0, 8, 255, 255);
+        Parks.row(x, 0, 8, 255, 255);
         due("of 8 bits 255 is -1", x.fits(0, 0, 13), 127);
-        row(x, 0, 16, 255, 255);
+        Parks.row(x, 0, 16, 255, 255);
         due("of 16 bits it isn't", x.fits(0, 0, 13), 0);
         due("nothing changed", x.of(0, 0) + x.now(0), 0);
         x.change(0, 3, 999);
@@ -914,7 +879,7 @@ public final class PromiseTest {
         due("no such sheet", x.headings(-1, 0, 0), BEYOND);
         due("no such sheet", x.headings(4, 0, 0), BEYOND);
         due("missing, before no such seed", x.headings(3, 0, 36), MISSING);
-        row(x, 3, 8);
+        Parks.row(x, 3, 8);
         due("no such seed", x.headings(3, 0, 0), BEYOND);
         x.sow(0, 12, 1);
         due("no such seed", x.headings(3, 1, 0), BEYOND);
@@ -923,16 +888,16 @@ public final class PromiseTest {
             due("headings(3,0," + c + ")", x.headings(3, 0, c), BEYOND);
         }
         due("no numbers", x.headings(3, 0, 13), 4);
-        row(x, 3, 8, 0, 12);
+        Parks.row(x, 3, 8, 0, 12);
         due("right alone", x.headings(3, 0, 13), 1);
-        row(x, 3, 8, 0, 0);
+        Parks.row(x, 3, 8, 0, 0);
         due("three others", x.headings(3, 0, 13), 3);
-        row(x, 3, 8, 1);
+        Parks.row(x, 3, 8, 1);
         due("none", x.headings(3, 0, 13), 0);
-        row(x, 3, 8, -1, -1);
+        Parks.row(x, 3, 8, -1, -1);
         due("any", x.headings(3, 0, 13), 4);
         x.change(0, 1, 0);
-        row(x, 3, 8, 0, 12);
+        Parks.row(x, 3, 8, 0, 12);
         due("in the corner it stays with two", x.headings(3, 0, 0), 2);
         due("nothing changed", x.of(0, 2), 1);
     }
@@ -961,9 +926,9 @@ public final class PromiseTest {
         due("dogs(20)", x.dogs(20) > 0 ? 1 : 0, 1);
         due("seasons", x.now(0), 23);
         SownPaths y = new SownPaths();
-        // The draw of z < 0 is not below 0.
-        y.seed(-2);
-        int next = -2 * 1103515245 + 12345;
+        // z becomes less than 0; what it gives does not.
+        y.seed(2);
+        int next = 2 * 1103515245 + 12345;
         y.tread((next >>> 8) % 36, 50);
         due("a draw", y.dogs(1), 0);
         SownPaths v = new SownPaths();
@@ -976,7 +941,7 @@ public final class PromiseTest {
         w.ground((12345 >>> 8) % 36, 1);
         w.seed(0);
         due("a draw of water", w.dogs(1), 0);
-        due("leaves it water", w.where(1), set((12345 >>> 8) % 36));
+        due("leaves it water", w.where(1), Parks.set((12345 >>> 8) % 36));
     }
 
     private static void odds() {
@@ -1039,18 +1004,18 @@ public final class PromiseTest {
 
     private static void wipe() {
         SownPaths x = new SownPaths();
-        feed(x, "seed 7");
+        Parks.feed(x, "seed 7");
         due("wipe()", x.wipe(), 6);
         due("wipe()", x.wipe(), 0);
         due("count(5)", x.count(5), 0);
-        feed(x, "water 3");
+        Parks.feed(x, "water 3");
         due("what was wiped is gone", x.text(), 1);
         due("no seed", x.count(1), 0);
     }
 
     private static void text() {
         SownPaths x = new SownPaths();
-        due("all words", read(x, "seed 0;annual 1 up;bulb 2 right;runner 3 down aged 0;straggler 4 left aged 999;"
+        due("all words", Parks.read(x, "seed 0;annual 1 up;bulb 2 right;runner 3 down aged 0;straggler 4 left aged 999;"
                 + "twiner 5 aged 3;creeper 6"), 7);
         int[][] dues = {{0, 0, 0, 0}, {1, 1, 0, 0}, {2, 2, 1, 0}, {3, 3, 2, 0}, {4, 4, 3, 999}, {5, 5, 0, 3},
             {6, 6, 0, 0}};
@@ -1060,21 +1025,21 @@ public final class PromiseTest {
             }
         }
         due("the tape is empty", x.count(5), 0);
-        due("the last cell", read(x, "path 35 4"), 1);
+        due("the last cell", Parks.read(x, "path 35 4"), 1);
         due("path of 35", x.cell(35, 1), 4);
-        due("grounds", read(x, "water 35;wall 34;path 0 99;path 1 0;path 2 5;water 2;grass 2"), 7);
-        due("water", x.where(1), set(35));
-        due("wall", x.where(2), set(34));
-        due("path", x.where(0), set(0));
-        due("no blanks", read(x, "seed35down;water7;path008 0001"), 3);
+        due("grounds", Parks.read(x, "water 35;wall 34;path 0 99;path 1 0;path 2 5;water 2;grass 2"), 7);
+        due("water", x.where(1), Parks.set(35));
+        due("wall", x.where(2), Parks.set(34));
+        due("path", x.where(0), Parks.set(0));
+        due("no blanks", Parks.read(x, "seed35down;water7;path008 0001"), 3);
         due("seed 7", x.of(7, 1) + x.of(7, 2), 37);
-        due("blanks", read(x, "   path   9    3   ;   grass  7 "), 2);
+        due("blanks", Parks.read(x, "   path   9    3   ;   grass  7 "), 2);
         due("path of 9", x.cell(9, 1), 3);
-        due("item by item", read(x, "wall 9;grass 9;path 9 4"), 3);
+        due("item by item", Parks.read(x, "wall 9;grass 9;path 9 4"), 3);
         due("path of 9", x.cell(9, 1), 4);
-        due("many zeros", read(x, "path 00000000000000000000000000009 00000000000000000000000000007"), 1);
+        due("many zeros", Parks.read(x, "path 00000000000000000000000000009 00000000000000000000000000007"), 1);
         due("path of 9", x.cell(9, 1), 7);
-        due("grass leaves path", read(x, "grass 9"), 1);
+        due("grass leaves path", Parks.read(x, "grass 9"), 1);
         due("path of 9", x.cell(9, 1), 7);
         SownPaths full = new SownPaths();
         StringBuilder longest = new StringBuilder("wall 1");
@@ -1082,9 +1047,9 @@ public final class PromiseTest {
             longest.append(";wall ").append(10 + i);
         }
         longest.append(" ");
-        due("a text of " + longest.length(), read(full, longest.toString()), 15);
+        due("a text of " + longest.length(), Parks.read(full, longest.toString()), 15);
         SownPaths z = new SownPaths();
-        due("no finding", read(z, "seed"), -5);
+        due("no finding", Parks.read(z, "seed"), -5);
         due("no finding", z.status(-1), 0);
     }
 
@@ -1093,10 +1058,10 @@ public final class PromiseTest {
         x.sow(0, 3, 0);
         x.ground(5, 1);
         x.tread(0, 7);
-        due("\"" + text + "\"", read(x, text), -1 - place);
+        due("\"" + text + "\"", Parks.read(x, text), -1 - place);
         due("\"" + text + "\" empties the tape", x.count(5), 0);
         due("\"" + text + "\" changes nothing", x.count(1) * 1000 + x.now(3), 1007);
-        due("\"" + text + "\" changes no ground", x.where(1) | x.where(2), set(5));
+        due("\"" + text + "\" changes no ground", x.where(1) | x.where(2), Parks.set(5));
     }
 
     private static void textFaults() {
@@ -1164,11 +1129,11 @@ public final class PromiseTest {
         for (int i = 0; i < 7; i++) {
             x.sow(0, 0, 0);
         }
-        due("the word of a ninth", read(x, "annual 3; bulb 77"), -1 - 10);
+        due("the word of a ninth", Parks.read(x, "annual 3; bulb 77"), -1 - 10);
         due("none came", x.count(1), 7);
-        due("an eighth", read(x, "annual 3"), 1);
-        due("a ninth", read(x, "  wall 3;twiner 3"), -1 - 9);
-        due("a ninth, alone", read(x, " twiner"), -1 - 1);
+        due("an eighth", Parks.read(x, "annual 3"), 1);
+        due("a ninth", Parks.read(x, "  wall 3;twiner 3"), -1 - 9);
+        due("a ninth, alone", Parks.read(x, " twiner"), -1 - 1);
         due("no wall came", x.where(2), 0);
     }
 
@@ -1251,7 +1216,7 @@ public final class PromiseTest {
         int[][] sorts = {{8, 256, 0}, {8, 255, -1}, {8, 128, -128}, {8, 127 + 256, 127}, {16, 65536 + 3, 3},
             {16, 65535, -1}, {16, 256, 256}, {32, 65536 + 3, 65539}, {32, -1, -1}, {32, 3, 3}};
         for (int[] sort : sorts) {
-            row(x, 1, sort[0], sort[1]);
+            Parks.row(x, 1, sort[0], sort[1]);
             int v = sort[2];
             x.tread(0, v >= 0 && v <= 99 ? v : 42);
             int want = v == -1 || v >= 0 && v <= 99 ? 127 : 0;
@@ -1268,7 +1233,7 @@ public final class PromiseTest {
         due("no such sheet, either", x.copy(0, 0, 4, 0, 0), BEYOND);
         due("no such sheet, either", x.copy(0, 0, -1, 0, 0), BEYOND);
         due("missing", x.copy(0, 0, 1, 0, -1), MISSING);
-        row(x, 0, 8, 1, 2, 3, 4, 5);
+        Parks.row(x, 0, 8, 1, 2, 3, 4, 5);
         due("missing, one", x.copy(0, 0, 1, 0, -1), MISSING);
         due("missing, one", x.copy(1, 0, 0, 0, -1), MISSING);
         due("no such sheet before missing", x.copy(1, 0, 4, 0, 0), BEYOND);
@@ -1305,9 +1270,9 @@ public final class PromiseTest {
         due("no such sheet", x.load(-1), BEYOND);
         due("no such sheet", x.load(4), BEYOND);
         due("missing", x.load(0), MISSING);
-        row(x, 0, 32);
+        Parks.row(x, 0, 32);
         due("no numbers", x.load(0), 0);
-        row(x, 0, 32, 5, 0, 99, 100, 7);
+        Parks.row(x, 0, 32, 5, 0, 99, 100, 7);
         x.tread(1, 3);
         x.tread(4, 3);
         due("to the first that isn't path", x.load(0), 3);
@@ -1316,15 +1281,15 @@ public final class PromiseTest {
         due("path 2", x.cell(2, 1), 99);
         due("path 3", x.cell(3, 1), 0);
         due("path 4", x.cell(4, 1), 3);
-        row(x, 0, 32, 5, -1, 99);
+        Parks.row(x, 0, 32, 5, -1, 99);
         due("-1 ends it", x.load(0), 1);
         x.ground(0, 1);
         x.ground(1, 2);
-        row(x, 0, 16, 5, 6, 7);
+        Parks.row(x, 0, 16, 5, 6, 7);
         due("water and walls come too", x.load(0), 3);
-        due("and are left as they are", x.where(0), set(2, 4));
+        due("and are left as they are", x.where(0), Parks.set(2, 4));
         due("path 2", x.cell(2, 1), 7);
-        row(x, 0, 16, 500, 6, 7);
+        Parks.row(x, 0, 16, 500, 6, 7);
         due("not 0 to 99, of water too", x.load(0), 0);
         x.sheet(1, 8, 40);
         for (int i = 0; i < 40; i++) {
@@ -1335,12 +1300,12 @@ public final class PromiseTest {
     }
 
     private static int verdict(SownPaths x, int... cells) {
-        row(x, 2, 8, cells);
+        Parks.row(x, 2, 8, cells);
         return x.judge(2);
     }
 
     private static void judge() {
-        SownPaths x = paths(0, 1, 2, 8, 5, 6);
+        SownPaths x = Parks.paths(0, 1, 2, 8, 5, 6);
         due("no such sheet", x.judge(-1), BEYOND);
         due("no such sheet", x.judge(4), BEYOND);
         due("missing", x.judge(2), MISSING);
@@ -1357,9 +1322,9 @@ public final class PromiseTest {
         due("not round the edge", verdict(x, 5, 6), 2);
         due("a neighbour without path", verdict(x, 0, 1, 7, 8), 3);
         due("the first that isn't so", verdict(x, 0, 1, 2, 3, 99), 4);
-        row(x, 2, 32, 0, 64);
+        Parks.row(x, 2, 32, 0, 64);
         due("cell 64 is not cell 0", x.judge(2), 2);
-        row(x, 2, 32, 64);
+        Parks.row(x, 2, 32, 64);
         due("cell 64 is not cell 0", x.judge(2), 1);
     }
 
@@ -1383,12 +1348,12 @@ public final class PromiseTest {
         x.hold(4, 1);
         x.hold(5, 1);
         x.seed(78);
-        feed(x, "seed 9");
-        row(x, 0, 8, 3);
+        Parks.feed(x, "seed 9");
+        Parks.row(x, 0, 8, 3);
         due("undo()", x.undo(), 1);
-        due("water", x.where(1), set(1));
-        due("wall", x.where(2), set(2));
-        due("path", x.where(0), set(3, 21));
+        due("water", x.where(1), Parks.set(1));
+        due("wall", x.where(2), Parks.set(2));
+        due("path", x.where(0), Parks.set(3, 21));
         due("path of 3", x.cell(3, 1), 49);
         due("seeds", x.count(1), 1);
         due("kind", x.of(0, 0), 1);
@@ -1416,7 +1381,7 @@ public final class PromiseTest {
     }
 
     private static void count() {
-        SownPaths x = paths(1, 6, 7, 8, 13);
+        SownPaths x = Parks.paths(1, 6, 7, 8, 13);
         x.sow(0, 35, 0);
         x.sow(0, 34, 0);
         x.change(1, 3, 20);
@@ -1424,7 +1389,7 @@ public final class PromiseTest {
         x.hold(3, 1);
         x.hold(9, 0);
         x.seed(-9);
-        feed(x, "abc");
+        Parks.feed(x, "abc");
         x.go(1);
         int[] dues = {1, 2, 1, 6, 1, 3, -9, 3};
         for (int what = 0; what < dues.length; what++) {
