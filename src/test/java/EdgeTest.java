@@ -216,6 +216,14 @@ public final class EdgeTest {
         due("it is there: as a seed", w.of(0, 6), 2);
         w.ground(34, 1);
         due("it is there, though other water is not", w.of(0, 6), 2);
+        SownPaths first = one(BULB, 1, 0);
+        first.ground(0, 1);
+        first.ground(35, 1);
+        due("the nearest water, which is cell 0", first.of(0, 6), 3);
+        SownPaths toFirst = one(RUNNER, 1, 0);
+        toFirst.sow(SEED, 0, 0);
+        toFirst.sow(SEED, 35, 0);
+        due("the nearest company, which is on cell 0", toFirst.of(0, 6), 3);
     }
 
     private static void towardWhatCannotBeReached() {
@@ -418,6 +426,13 @@ public final class EdgeTest {
         due("where: all wall", wall.where(2), ALL);
         due("where: no water", wall.where(1), 0);
         due("where: no path", wall.where(0), 0);
+        SownPaths least = Parks.trodden(1);
+        due("path of 1 is path: benches", least.now(4), 32);
+        due("path of 1 is path: joined", least.joined(0), ALL);
+        due("path of 1 is path: way", least.way(0, 35), 10);
+        due("path of 1 is path: groups", least.groups(), 1);
+        due("path of 1 is path: how many", least.now(1), 36);
+        due("path of 1 is path: not any more", least.go(1), 0);
         SownPaths two = Parks.paths(0, 1, 2, 3, 7, 8);
         due("two benches", two.where(3), Parks.set(1, 2));
         due("two benches", two.now(4), 2);
@@ -575,6 +590,25 @@ public final class EdgeTest {
         due("kindFor: of age 20 only as a bulb", old.kindFor(0, 1), BULB);
         old.change(0, 3, 30);
         due("kindFor: of age 30 as none", old.kindFor(0, 1), SEED);
+        // Two seasons on from 14 a creeper, alone, would be on 16, a straggler on 9, a twiner on 21.
+        SownPaths free = Parks.paths(14, 8, 2, 15, 9, 21);
+        free.sow(SEED, 14, 0);
+        free.change(0, 3, 1);
+        due("kindFor: a creeper", free.kindFor(0, 2), CREEPER);
+        free.tread(16, 50);
+        due("kindFor: none", free.kindFor(0, 2), SEED);
+        free.tread(9, 0);
+        due("kindFor: a straggler", free.kindFor(0, 2), STRAGGLER);
+        free.tread(21, 0);
+        due("kindFor: a straggler or a twiner, the least", free.kindFor(0, 2), STRAGGLER);
+        free.tread(9, 50);
+        due("kindFor: a twiner", free.kindFor(0, 2), TWINER);
+        free.sow(SEED, 26, 3);
+        free.change(1, 3, 29);
+        free.change(1, 0, BULB);
+        free.tread(25, 50);
+        free.tread(20, 0);
+        due("kindFor: a runner toward company", free.kindFor(0, 1), RUNNER);
         SownPaths last = one(ANNUAL, 14, 3);
         last.ground(13, 1);
         last.ground(8, 1);
@@ -831,7 +865,7 @@ public final class EdgeTest {
             for (int heading = 0; heading < 4; heading++) {
                 SownPaths z = new SownPaths();
                 String item = kinds[kind] + "9" + headings[heading];
-                due("text: " + item + " aged, it ends too early", Parks.read(z, item + " aged"), -1 - item.length() - 5);
+                due("text: " + item + " aged, too early an end", Parks.read(z, item + " aged"), -1 - item.length() - 5);
                 due("text: " + item, Parks.read(z, item), 1);
                 due("text: its kind", z.of(0, 0), kind);
                 due("text: its heading", z.of(0, 2), heading);

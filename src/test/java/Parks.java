@@ -73,6 +73,7 @@ final class Parks {
         x.seed(77);
         x.go(1);
         x.image();
+        x.seed(-5);
         x.go(1);
         x.tread(30, 9);
         row(x, 0, 8, 12, 13, 14);

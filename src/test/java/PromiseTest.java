@@ -477,6 +477,9 @@ public final class PromiseTest {
         due("dogs: BEYOND is asked first", old.dogs(21), BEYOND);
         due("season", old.now(0), 99999);
         due("what will be can be told all the same", old.ahead(0, 60), 0);
+        old.sow(4, 14, 0);
+        due("99999 at most: it stays odd, a straggler goes round", old.head(0, 2), 21);
+        due("99999 at most: it stays odd, a straggler goes round", old.head(0, 4), 14);
     }
 
     /** A seed's one step from a cell by a heading on grass alone. */
