@@ -900,6 +900,10 @@ public final class EdgeTest {
         fault("path 1 100", 7);
         fault("path 1 999", 7);
         fault("path 36 3", 5);
+        fault("path 64 3", 5);
+        fault("path 99 3", 5);
+        fault("seed 64", 5);
+        fault("wall 64", 5);
         fault("water 36", 6);
         fault("wall 36", 5);
         fault("grass 36", 6);

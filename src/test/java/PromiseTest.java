@@ -476,6 +476,7 @@ public final class PromiseTest {
         due("dogs: STATE", old.dogs(1), STATE);
         due("dogs: BEYOND is asked first", old.dogs(21), BEYOND);
         due("season", old.now(0), 99999);
+        due("STATE is counted", old.status(4), 3);
         due("what will be can be told all the same", old.ahead(0, 60), 0);
         old.sow(4, 14, 0);
         due("99999 at most: it stays odd, a straggler goes round", old.head(0, 2), 21);

@@ -82,7 +82,7 @@ public final class RefusedTest {
             if (bounds[k] == ANY) {
                 continue;
             }
-            for (int v : new int[] {bounds[k][0] - 1, bounds[k][1] + 1, MIN, MAX}) {
+            for (int v : outside(bounds[k])) {
                 given[k] = v;
                 refused(BUSY, BEYOND, name, given);
             }
@@ -91,6 +91,13 @@ public final class RefusedTest {
                 CHECK.holds(say(name, given) + " is not BEYOND", Parks.call(Parks.busy(), name, given) != BEYOND);
             }
         }
+    }
+
+    /** Just outside, far outside, and where a shift of 32 or 64 bits would come round to what is inside. */
+    private static int[] outside(int[] bounds) {
+        int[] near = {bounds[0] - 1, bounds[1] + 1, MIN, MAX, MIN + bounds[1], bounds[0] + 64, bounds[0] - 64,
+            bounds[0] + 32, bounds[0] - 32};
+        return Arrays.stream(near).filter(v -> v < bounds[0] || v > bounds[1]).toArray();
     }
 
     private static int[] args(int... args) {
