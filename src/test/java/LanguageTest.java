@@ -4,6 +4,9 @@ import java.lang.reflect.Method;
 import java.lang.reflect.Modifier;
 import java.nio.file.Files;
 import java.nio.file.Path;
+import java.util.HashMap;
+import java.util.HashSet;
+import java.util.Map;
 import java.util.Set;
 import java.util.TreeSet;
 import java.util.regex.Matcher;
@@ -34,6 +37,7 @@ public final class LanguageTest {
             CHECK.holds("no " + banned, !Pattern.compile(banned).matcher(code).find());
         }
         shortMethods(code);
+        shallowCalls(code);
         face();
         insides();
         CHECK.end();
@@ -52,6 +56,39 @@ public final class LanguageTest {
             CHECK.holds("a short method: " + lines[i], end - i < 60);
         }
         CHECK.holds("methods were found", methods > 46);
+    }
+
+    /** Calls are found by their bare names, so that none is missed where two classes share one. */
+    private static void shallowCalls(String code) {
+        Map<String, String> bodies = new HashMap<>();
+        Pattern head = Pattern.compile("(?m)^(?: {4}| {8})\\w[\\w\\[\\] ]*?(\\w+)\\([^\\n]*\\) \\{$");
+        Matcher m = head.matcher(code);
+        String name = null;
+        int from = 0;
+        while (m.find()) {
+            if (name != null) bodies.merge(name, code.substring(from, m.start()), String::concat);
+            name = m.group(1);
+            from = m.end();
+        }
+        bodies.merge(name, code.substring(from), String::concat);
+        CHECK.holds("methods have names", bodies.size() > 100);
+        for (String act : bodies.keySet()) {
+            CHECK.holds("no recursion, and eight calls deep at most: " + act, depth(act, bodies, new HashSet<>()) <= 8);
+        }
+    }
+
+    private static int depth(String name, Map<String, String> bodies, Set<String> open) {
+        if (!open.add(name)) return 1000;
+        int deepest = 0;
+        Set<String> seen = new HashSet<>();
+        Matcher call = Pattern.compile("\\b(\\w+)\\(").matcher(bodies.get(name));
+        while (call.find()) {
+            if (bodies.containsKey(call.group(1)) && seen.add(call.group(1))) {
+                deepest = Math.max(deepest, depth(call.group(1), bodies, open));
+            }
+        }
+        open.remove(name);
+        return deepest + 1;
     }
 
     private static String face(Method m) {
