@@ -53,6 +53,7 @@ public final class EdgeTest {
         tape();
         texts();
         tokens();
+        leftOvers();
         ninth();
         spots();
         sheets();
@@ -619,6 +620,14 @@ public final class EdgeTest {
         SownPaths left = Parks.paths(14, 15, 8, 20);
         left.sow(SEED, 14, 0);
         due("headingFor: the last one", left.headingFor(0, 1), 3);
+        // Staying once on 14 and then going right would be four cells, but no heading of the four does that.
+        SownPaths four = one(ANNUAL, 14, 0);
+        for (int wall : new int[] {13, 2, 9, 20}) {
+            four.ground(wall, 2);
+        }
+        due("headingFor: there are four headings", four.headingFor(0, 4), 1);
+        four.change(0, 2, 1);
+        due("headingFor: three cells to the right", four.go(4), 3);
         SownPaths creeper = Parks.paths(14);
         creeper.sow(SEED, 14, 0);
         creeper.tread(8, 99);
@@ -952,6 +961,23 @@ public final class EdgeTest {
         due("blanks at both ends and between", Parks.read(new SownPaths(), "  wall   4  ;  seed  1  aged  2  "), 2);
         fault("wall4;seed1up;seed1aged2;path3 2;seed1upaged2", 38);
         due("no blanks where none must be", Parks.read(new SownPaths(), "wall4;seed1up;seed1aged2;path3 2"), 4);
+    }
+
+    /** What a tape had before it was empty is not behind what comes to it. */
+    private static void leftOvers() {
+        for (String old : new String[] {"upupupupupupupup", "9999999999999999", ";;;;;;;;;;;;;;;;", "!!!!!!!!!!!!!!!!"}) {
+            SownPaths x = new SownPaths();
+            Parks.feed(x, old);
+            due("wiped: " + old, x.wipe(), 16);
+            due("a word last, over " + old, Parks.read(x, "seed 5 down"), 1);
+            due("its heading", x.of(0, 2), 2);
+            due("a fault empties: " + old, Parks.read(x, old), -1);
+            due("a number last, over " + old, Parks.read(x, "seed 3"), 1);
+            due("its cell", x.of(1, 1), 3);
+            due("again a fault: " + old, Parks.read(x, old), -1);
+            due("too early, over " + old, Parks.read(x, "wall"), -1 - 4);
+            due("empty, over " + old, x.text(), -1);
+        }
     }
 
     private static void ninth() {
